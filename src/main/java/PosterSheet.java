@@ -551,7 +551,7 @@ public final class PosterSheet {
         }
 
         boolean lies(int k) {
-            return xOf(k) != NONE;
+            return hasItem(k) && xs[k] != NONE;
         }
 
         int lying() {
@@ -1093,8 +1093,8 @@ public final class PosterSheet {
         }
 
         void look(Layout layout) {
-            width = layout.width;
-            height = layout.height;
+            width = Math.min(MOST_SIDE, layout.width);
+            height = Math.min(MOST_SIDE, layout.height);
             Arrays.fill(open, 1);
             for (int k = 0; k < layout.count; k++) {
                 if (layout.lies(k)) {
