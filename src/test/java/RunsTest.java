@@ -6,7 +6,8 @@ import java.util.List;
 /** All promises: long runs of calls, the same on PosterSheet and on Model. The runs are always the same ones. */
 public final class RunsTest {
     private static final int RUNS = 150;
-    private static final int CALLS = 512;
+    /** An object is used for 512 calls; the last one is a digest. */
+    private static final int CALLS = 511;
     /** Of each call how often it comes, and the least and the most of each of its numbers. */
     private static final Object[][] FACE = {
         {"sheet", 5, 6, 16, 6, 16}, {"sets", 12, 0, 4, 0, 2}, {"item", 10, 0, 1, 1, 6, 1, 4, 1, 4}, {"drops", 3, 0, 7},
