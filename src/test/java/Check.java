@@ -10,6 +10,11 @@ final class Check {
     /** Begins the checks of a promise, on a new object. */
     PosterSheet begin(String promise) {
         this.promise = promise;
+        return again();
+    }
+
+    /** Goes on with a new object, as one is used for 512 calls at most. */
+    PosterSheet again() {
         sheet = new PosterSheet();
         return sheet;
     }

@@ -1,4 +1,3 @@
-import java.lang.reflect.Method;
 import java.util.ArrayList;
 import java.util.Arrays;
 import java.util.List;
@@ -28,7 +27,7 @@ public final class RunsTest {
     private static int wrong;
     private static int asked;
 
-    public static void main(String[] args) throws ReflectiveOperationException {
+    public static void main(String[] args) {
         for (int run = 0; run < RUNS; run++) {
             seed = 7 + 1000003L * run;
             oneRun(run);
@@ -44,7 +43,7 @@ public final class RunsTest {
         return least + (int) ((seed >>> 33) % (most - least + 1));
     }
 
-    private static void oneRun(int run) throws ReflectiveOperationException {
+    private static void oneRun(int run) {
         PosterSheet sheet = new PosterSheet();
         Model model = new Model();
         List<String> calls = new ArrayList<>();
@@ -56,8 +55,8 @@ public final class RunsTest {
                     left--;
                     String name = (String) c[0];
                     Object[] numbers = Arrays.copyOfRange(c, 1, c.length);
-                    long got = answer(sheet, name, numbers);
-                    long want = answer(model, name, numbers);
+                    long got = Calls.answer(sheet, name, numbers);
+                    long want = Calls.answer(model, name, numbers);
                     asked++;
                     calls.add(name + Arrays.toString(numbers));
                     if (got != want) {
@@ -77,13 +76,6 @@ public final class RunsTest {
         int from = Math.max(0, calls.size() - 12);
         System.out.println("run " + run + ", call " + calls.size() + ": answered " + got + ", due is " + want
             + ", behind " + calls.subList(from, calls.size()));
-    }
-
-    private static long answer(Object on, String name, Object[] numbers) throws ReflectiveOperationException {
-        Class<?>[] kinds = new Class<?>[numbers.length];
-        Arrays.fill(kinds, int.class);
-        Method method = on.getClass().getMethod(name, kinds);
-        return ((Number) method.invoke(on, numbers)).longValue();
     }
 
     private static Object[] call(Model model) {
