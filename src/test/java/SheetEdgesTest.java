@@ -26,6 +26,7 @@ public final class SheetEdgesTest {
         apartFromThoseThatLie();
         placesInOrder();
         packing();
+        packingOnWideAndHighSheets();
         packingWithoutPlace();
         lastItems();
         swapsAtTheEdges();
@@ -421,6 +422,28 @@ public final class SheetEdgesTest {
         }
     }
 
+    private static void packingOnWideAndHighSheets() {
+        begin("PACKING: the first place where it FITS, on a wide sheet, on a high one", 16, 6, 0, 60);
+        items(2, 0, 1, 1, 1);
+        items(2, 0, 6, 1, 1);
+        check.changes("packs()", () -> p.packs(), 4);
+        place(0, 0, 0);
+        place(1, 6, 0);
+        place(2, 12, 0);
+        place(3, 13, 0);
+        p.sheet(6, 16);
+        check.changes("packs()", () -> p.packs(), 4);
+        place(0, 0, 0);
+        place(1, 0, 6);
+        place(2, 0, 12);
+        place(3, 1, 12);
+        p.sets(1, 2);
+        check.changes("packs(), with a GUTTER", () -> p.packs(), 2);
+        place(1, 0, 8);
+        place(2, NONE, NONE);
+        place(3, NONE, NONE);
+    }
+
     private static void packingWithoutPlace() {
         begin("PACKING: it lies nowhere, if there is none", 8, 7, 0, 40);
         p.sets(3, 10);
@@ -459,6 +482,27 @@ public final class SheetEdgesTest {
         check.due("all(0)", p.all(0), 0);
         check.due("item(0, 1, 1, 1)", p.item(0, 1, 1, 1), 0);
         place(0, NONE, NONE);
+
+        begin("drops: those behind it are one nearer, with all that they have");
+        p.item(0, 1, 4, 1);
+        p.item(1, 2, 1, 4);
+        p.item(0, 6, 3, 2);
+        p.keeps(0);
+        int[][] due = new int[3][10];
+        for (int k = 0; k < 3; k++) {
+            for (int what = 0; what <= 9; what++) {
+                due[k][what] = p.of(k, what);
+            }
+        }
+        for (int gone = 0; gone < 2; gone++) {
+            p.drops(0);
+            for (int k = gone + 1; k < 3; k++) {
+                for (int what = 0; what <= 9; what++) {
+                    int now = k - gone - 1;
+                    check.due("of(" + now + ", " + what + ")", p.of(now, what), due[k][what]);
+                }
+            }
+        }
 
         begin("off: how many lie yet");
         p.sets(2, 10);

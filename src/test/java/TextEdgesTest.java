@@ -35,6 +35,8 @@ public final class TextEdgesTest {
         fiveStates();
         manyStates();
         statesHold();
+        statesHoldLines();
+        statesHoldKeptSheets();
         refusalsAreNotHeld();
         told();
         digestOfANewObject();
@@ -435,6 +437,60 @@ public final class TextEdgesTest {
             check.due("otherwise(1, 1) behind " + call[0], p.otherwise(1, 1), far);
         }
         check.due("otherwise(1, 0)", p.otherwise(1, 0), 1);
+    }
+
+    private static void statesHoldLines() {
+        begin("to go back to (THE SHEET with all its numbers): COLUMNS");
+        p.item(0, 6, 1, 1);
+        p.sets(4, 3);
+        p.sets(4, 2);
+        p.sheet(9, 9);
+        // LINES were 1, 4 and 7; then 1 and 6; then 1 and 4.
+        int[][] lines = {{1, 4}, {1, 6}, {1, 4, 7}};
+        for (int i = 0; i < 3; i++) {
+            for (int line : lines[i]) {
+                check.asks("fits(0, " + line + ", 1)", () -> p.fits(0, line, 1), 1);
+            }
+            check.asks("free(0, 3)", () -> p.free(0, 3), lines[i].length * (i == 0 ? 7 : 10));
+            p.back();
+        }
+        check.asks("free(0, 3): no LINES", () -> p.free(0, 3), 100);
+        check.reads("c 6;", 1);
+        check.asks("free(0, 3): by what THE TEXT tells", () -> p.free(0, 3), 60);
+        check.readsNothing("c 2; m 3;", -1001);
+        check.asks("free(0, 3): by what is not done", () -> p.free(0, 3), 60);
+    }
+
+    private static void statesHoldKeptSheets() {
+        for (int t = 0; t <= 2; t++) {
+            int s = t;
+            begin("to go back to (KEPT SHEETS), " + s);
+            p.sets(2, 10);
+            for (int k = 0; k < 8; k++) {
+                p.item(0, 1, 1, 1);
+            }
+            p.packs();
+            p.keeps(s);
+            Calls.type(p, "a; m 0; a;");
+            check.due("reads()", p.reads(), 3);
+            check.due("otherwise(" + s + ", 0)", p.otherwise(s, 0), 8);
+            check.due("otherwise(" + s + ", 1)", p.otherwise(s, 1), 16);
+            check.due("keeps(" + s + ") anew", p.keeps(s), 8);
+            check.due("otherwise(" + s + ", 0)", p.otherwise(s, 0), 0);
+            check.due("back()", p.back(), 4);
+            check.due("otherwise(" + s + ", 0) behind back()", p.otherwise(s, 0), 8);
+            check.due("otherwise(" + s + ", 1) behind back()", p.otherwise(s, 1), 16);
+            check.due("takes(" + s + ")", p.takes(s), 8);
+            for (int k = 0; k < 8; k++) {
+                check.due("of(" + k + ", 4)", p.of(k, 4), 1 + k);
+                check.due("of(" + k + ", 5)", p.of(k, 5), 1);
+            }
+            for (int i = 0; i < 3; i++) {
+                check.due("back()", p.back(), 4 - i);
+            }
+            check.due("told(12): not KEPT yet", p.told(12), 0);
+            check.refused("takes(" + s + ")", () -> p.takes(s), NO);
+        }
     }
 
     private static void refusalsAreNotHeld() {

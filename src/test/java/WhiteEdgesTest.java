@@ -14,20 +14,24 @@ public final class WhiteEdgesTest {
         likeBlocks();
         widestBlocks();
         parts();
+        narrowParts();
         share();
         centreOfNone();
         centreOfOne();
         bestOfLikeOnes();
+        bestAtTheFarEdge();
         allOfNoneAndOfEight();
         pairs();
         sorted();
         kept();
         keptNumbers();
         otherwiseAtTheEdges();
+        otherwiseOfOblongs();
         far();
         staysAtTheEdges();
         staysOfLikeOnes();
         tidiesNearest();
+        tidiesAtTheUpperEdge();
         tidiesInOrder();
         tidiesWithoutPlace();
         check.end();
@@ -49,6 +53,11 @@ public final class WhiteEdgesTest {
     private static void place(int k, int x, int y) {
         check.due("of(" + k + ", 4)", p.of(k, 4), x);
         check.due("of(" + k + ", 5)", p.of(k, 5), y);
+    }
+
+    private static void size(int k, int wide, int high) {
+        check.due("of(" + k + ", 6)", p.of(k, 6), wide);
+        check.due("of(" + k + ", 7)", p.of(k, 7), high);
     }
 
     private static void whites(int cells, int block, int place, int wide, int parts) {
@@ -193,10 +202,70 @@ public final class WhiteEdgesTest {
         p.lays(1, 3, 0);
         whites(18, 18, 48, 6, 1);
 
+        begin("PARTS: one row or column at an edge is one", 6, 6, 0, 60);
+        p.item(1, 1, 3, 4);
+        check.due("of(0, 6)", p.of(0, 6), 5);
+        p.lays(0, 1, 0);
+        whites(6, 6, 0, 1, 1);
+        p.lays(0, 0, 0);
+        whites(6, 6, 5, 1, 1);
+        p.sheet(6, 7);
+        p.becomes(0, 0, 0);
+        p.becomes(0, 2, 1);
+        p.lays(0, 0, 0);
+        whites(6, 6, 96, 6, 1);
+        p.lays(0, 0, 1);
+        whites(6, 6, 0, 6, 1);
+
         begin("PARTS: round an ITEM they hang together", 6, 6, 0, 40);
         items(1, 0, 1, 1, 1);
         p.lays(0, 1, 1);
         whites(20, 6, 0, 6, 1);
+    }
+
+    /** Round the corner in each direction, through one CELL. */
+    private static void narrowParts() {
+        begin("PARTS: CELLS hang together side by side, to the left, to the right", 6, 6, 0, 60);
+        p.sets(3, 12);
+        p.item(1, 1, 2, 3);
+        p.item(1, 2, 1, 4);
+        p.lays(0, 2, 0);
+        p.lays(1, 0, 0);
+        // Column 1, and the CELL at 0, 5.
+        whites(7, 6, 1, 1, 1);
+        p.lays(1, 1, 1);
+        // Column 0, and the CELL at 1, 0.
+        whites(7, 6, 0, 1, 1);
+        p.off(1);
+        p.lays(0, 0, 0);
+        p.lays(1, 5, 0);
+        // Column 4, and the CELL at 5, 5.
+        whites(7, 6, 4, 1, 1);
+        p.off(1);
+        p.lays(1, 4, 1);
+        whites(7, 6, 5, 1, 1);
+
+        begin("PARTS: CELLS hang together side by side, up, down", 6, 6, 0, 40);
+        p.sets(3, 30);
+        p.item(1, 1, 3, 2);
+        p.item(0, 2, 3, 1);
+        p.lays(0, 0, 2);
+        p.lays(1, 1, 0);
+        // Row 1, and the CELLS at 0, 0 and 5, 0.
+        whites(8, 6, 16, 6, 1);
+        p.lays(1, 2, 0);
+        whites(8, 6, 16, 6, 1);
+        p.lays(1, 0, 0);
+        whites(8, 6, 16, 6, 1);
+        p.lays(1, 1, 1);
+        whites(8, 6, 0, 6, 1);
+        p.becomes(1, 2, 4);
+        whites(7, 6, 0, 6, 1);
+        p.off(1);
+        p.lays(0, 0, 0);
+        p.lays(1, 1, 4);
+        // Row 5, and the CELL at 0, 4.
+        whites(7, 6, 80, 6, 1);
     }
 
     private static void share() {
@@ -282,6 +351,19 @@ public final class WhiteEdgesTest {
         p.lays(1, 6, 6);
         check.asks("free(0, 1): across", () -> p.free(0, 1), 0);
         check.asks("free(2, 1): in the middle", () -> p.free(2, 1), 16 * 3 + 3);
+    }
+
+    private static void bestAtTheFarEdge() {
+        begin("BEST place of an ITEM: of all where it FITS, on a wide sheet, on a high one", 16, 6, 0, 60);
+        items(1, 0, 1, 2, 1);
+        items(1, 0, 6, 1, 1);
+        p.lays(0, 0, 0);
+        check.asks("free(1, 1): to the right alone", () -> p.free(1, 1), 16 * 2 + 15);
+        p.sheet(6, 16);
+        p.becomes(0, 2, 1);
+        p.lays(0, 0, 0);
+        check.asks("free(1, 1): below alone", () -> p.free(1, 1), 16 * 15 + 2);
+        check.asks("free(1, 3)", () -> p.free(1, 3), 60);
     }
 
     // ---- all, sorted
@@ -466,6 +548,41 @@ public final class WhiteEdgesTest {
         check.asks("otherwise(0, 0): another W and H, but alike", () -> p.otherwise(0, 0), 0);
     }
 
+    private static void otherwiseOfOblongs() {
+        begin("OTHERWISE (WIDE, HIGH), of those that are not as wide as high", 16, 16, 0, 40);
+        p.item(0, 1, 2, 1);
+        p.item(1, 1, 1, 2);
+        p.lays(0, 0, 0);
+        p.lays(1, 9, 9);
+        size(0, 8, 4);
+        size(1, 2, 4);
+        for (int s = 0; s <= 2; s++) {
+            p.keeps(s);
+        }
+        for (int t = 0; t <= 2; t++) {
+            int s = t;
+            check.asks("otherwise(" + s + ", 0): alike", () -> p.otherwise(s, 0), 0);
+            p.becomes(1, 2, 2);
+            check.asks("otherwise(" + s + ", 0): WIDE", () -> p.otherwise(s, 0), 1);
+            p.becomes(1, 2, 1);
+            p.sets(2, 45);
+            size(0, 9, 5);
+            size(1, 2, 5);
+            check.asks("otherwise(" + s + ", 0): HIGH, and both", () -> p.otherwise(s, 0), 2);
+            p.sets(2, 40);
+        }
+        p.sets(2, 20);
+        p.keeps(1);
+        size(0, 4, 2);
+        p.sets(2, 40);
+        p.becomes(0, 0, 1);
+        p.becomes(0, 2, 1);
+        p.becomes(0, 3, 2);
+        p.off(1);
+        size(0, 2, 4);
+        check.asks("otherwise(1, 0): as high as it was wide, as wide as it was high", () -> p.otherwise(1, 0), 2);
+    }
+
     private static void far() {
         begin("FAR: of those that lie both times how far x and y are apart, without signs, together", 16, 16, 0, 10);
         items(2, 0, 1, 1, 1);
@@ -597,6 +714,27 @@ public final class WhiteEdgesTest {
         p.sets(4, 2);
         check.changes("tidies(): LINES 0 and 8 are as near", () -> p.tidies(), 0);
         place(0, 0, 3);
+    }
+
+    private static void tidiesAtTheUpperEdge() {
+        begin("nearest to where it was, on a wide sheet, in the first row", 16, 6, 0, 60);
+        items(1, 0, 1, 1, 1);
+        items(1, 0, 6, 1, 1);
+        p.lays(0, 0, 0);
+        p.lays(1, 6, 0);
+        p.becomes(0, 2, 2);
+        check.changes("tidies()", () -> p.tidies(), 1);
+        place(0, 0, 0);
+        place(1, 12, 0);
+        p.lays(1, 15, 5);
+        p.sets(1, 2);
+        check.changes("tidies(), both stay", () -> p.tidies(), 2);
+        p.sheet(15, 6);
+        check.changes("tidies(): one CELL to the left", () -> p.tidies(), 1);
+        place(1, 14, 5);
+        p.sheet(14, 6);
+        check.changes("tidies(): it would be too near", () -> p.tidies(), 1);
+        place(1, -1, -1);
     }
 
     private static void tidiesInOrder() {
