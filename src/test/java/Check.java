@@ -13,6 +13,15 @@ final class Check {
         return again();
     }
 
+    /** The same, on a sheet of W by H CELLS with MARGIN and BIG. */
+    PosterSheet begin(String promise, int w, int h, int margin, int big) {
+        begin(promise);
+        sheet.sheet(w, h);
+        sheet.sets(0, margin);
+        sheet.sets(2, big);
+        return sheet;
+    }
+
     /** Goes on with a new object, as one is used for 512 calls at most. */
     PosterSheet again() {
         sheet = new PosterSheet();
@@ -25,6 +34,24 @@ final class Check {
             wrong++;
             System.out.println(promise + ": " + call + " answered " + got + ", due is " + want);
         }
+    }
+
+    void items(int many, int sort, int rank, int a, int b) {
+        for (int i = 0; i < many; i++) {
+            sheet.item(sort, rank, a, b);
+        }
+    }
+
+    /** Where an ITEM lies. */
+    void place(int k, int x, int y) {
+        due("of(" + k + ", 4)", sheet.of(k, 4), x);
+        due("of(" + k + ", 5)", sheet.of(k, 5), y);
+    }
+
+    /** WIDE and HIGH of an ITEM. */
+    void size(int k, int wide, int high) {
+        due("of(" + k + ", 6)", sheet.of(k, 6), wide);
+        due("of(" + k + ", 7)", sheet.of(k, 7), high);
     }
 
     /** A question: it answers what is due and changes nothing. */

@@ -20,21 +20,16 @@ public final class LyingTest {
         check.end();
     }
 
-    private static void place(int k, int x, int y) {
-        check.due("of(" + k + ", 4)", p.of(k, 4), x);
-        check.due("of(" + k + ", 5)", p.of(k, 5), y);
-    }
-
     private static void lays() {
         p = check.begin("promise 10");
         p.item(0, 1, 1, 1);
         p.item(0, 2, 1, 1);
         check.changes("lays(0, 1, 1)", () -> p.lays(0, 1, 1), 0);
-        place(0, 1, 1);
+        check.place(0, 1, 1);
         check.refused("lays(1, 4, 4): it does not FIT there", () -> p.lays(1, 4, 4), -3);
-        place(1, -1, -1);
+        check.place(1, -1, -1);
         check.due("lays(0, 2, 2), over where it lay", p.lays(0, 2, 2), 1);
-        place(0, 2, 2);
+        check.place(0, 2, 2);
         check.due("lays(0, 2, 2) again", p.lays(0, 2, 2), 1);
         check.due("told(13)", p.told(13), 5);
         check.due("lays(1, 6, 2)", p.lays(1, 6, 2), 0);
@@ -44,7 +39,7 @@ public final class LyingTest {
         for (int[] b : bad) {
             check.refused("lays not as told", () -> p.lays(b[0], b[1], b[2]), -2);
         }
-        place(0, 2, 2);
+        check.place(0, 2, 2);
     }
 
     private static void off() {
@@ -55,8 +50,8 @@ public final class LyingTest {
         check.refused("off(1), it lies nowhere", () -> p.off(1), -3);
         p.lays(1, 5, 5);
         check.changes("off(0)", () -> p.off(0), 1);
-        place(0, -1, -1);
-        place(1, 5, 5);
+        check.place(0, -1, -1);
+        check.place(1, 5, 5);
         check.refused("off(0), it lies nowhere", () -> p.off(0), -3);
         check.due("off(1)", p.off(1), 0);
         check.refused("off(-1)", () -> p.off(-1), -2);
@@ -72,16 +67,16 @@ public final class LyingTest {
         p.lays(0, 1, 2);
         p.lays(1, 6, 7);
         check.changes("swaps(0, 1)", () -> p.swaps(0, 1), 2);
-        place(0, 6, 7);
-        place(1, 1, 2);
+        check.place(0, 6, 7);
+        check.place(1, 1, 2);
         check.changes("swaps(2, 0): it sticks into the MARGIN", () -> p.swaps(2, 0), 0);
-        place(2, 6, 7);
-        place(0, -1, -1);
+        check.place(2, 6, 7);
+        check.place(0, -1, -1);
         check.due("swaps(0, 1)", p.swaps(0, 1), 1);
-        place(0, 1, 2);
+        check.place(0, 1, 2);
         check.due("swaps(1, 2)", p.swaps(1, 2), 1);
         check.due("swaps(2, 0)", p.swaps(2, 0), 1);
-        place(2, 1, 2);
+        check.place(2, 1, 2);
         check.refused("swaps(0, 0)", () -> p.swaps(0, 0), -2);
         check.refused("swaps(1, 1)", () -> p.swaps(1, 1), -2);
         check.refused("swaps(-1, 0)", () -> p.swaps(-1, 0), -2);
@@ -222,19 +217,19 @@ public final class LyingTest {
         p.item(0, 3, 1, 1);
         p.lays(0, 9, 9);
         check.changes("packs()", () -> p.packs(), 3);
-        place(1, 1, 1);
-        place(0, 5, 1);
-        place(2, 7, 1);
+        check.place(1, 1, 1);
+        check.place(0, 5, 1);
+        check.place(2, 7, 1);
         p.sheet(6, 6);
         check.changes("packs(), no place for two", () -> p.packs(), 1);
-        place(1, 1, 1);
-        place(0, -1, -1);
-        place(2, -1, -1);
+        check.place(1, 1, 1);
+        check.place(0, -1, -1);
+        check.place(2, -1, -1);
         p.becomes(1, 1, 6);
         check.changes("packs() by the new RANK", () -> p.packs(), 3);
-        place(0, 1, 1);
-        place(2, 3, 1);
-        place(1, 1, 3);
+        check.place(0, 1, 1);
+        check.place(2, 3, 1);
+        check.place(1, 1, 3);
     }
 
     private static void tidies() {
@@ -248,20 +243,20 @@ public final class LyingTest {
         p.lays(1, 5, 1);
         p.lays(2, 7, 2);
         check.changes("tidies(), all FIT", () -> p.tidies(), 3);
-        place(1, 5, 1);
-        place(3, -1, -1);
+        check.place(1, 5, 1);
+        check.place(3, -1, -1);
         p.sets(1, 1);
         check.changes("tidies(), one is too near to both others", () -> p.tidies(), 2);
-        place(0, 1, 1);
+        check.place(0, 1, 1);
         // As near as 9, 1 would be 6, 4, a later place.
-        place(1, 9, 1);
-        place(2, 7, 2);
-        place(3, -1, -1);
+        check.place(1, 9, 1);
+        check.place(2, 7, 2);
+        check.place(3, -1, -1);
         p.sheet(6, 6);
         check.changes("tidies(), two have no place", () -> p.tidies(), 1);
-        place(0, 1, 1);
-        place(1, -1, -1);
-        place(2, -1, -1);
+        check.place(0, 1, 1);
+        check.place(1, -1, -1);
+        check.place(2, -1, -1);
 
         p = check.begin("promise 16, nearest");
         p.item(0, 6, 1, 1);
@@ -275,9 +270,9 @@ public final class LyingTest {
         check.due("of(0, 6)", p.of(0, 6), 4);
         check.due("of(1, 6)", p.of(1, 6), 1);
         check.changes("tidies()", () -> p.tidies(), 1);
-        place(0, 5, 5);
+        check.place(0, 5, 5);
         // As near as 6, 4 is 4, 6, a later place; 9, 6 and 6, 9 are farther.
-        place(1, 6, 4);
+        check.place(1, 6, 4);
 
         p = check.begin("promise 16, by RANK, of like RANK by number");
         for (int k = 0; k < 4; k++) {
@@ -291,10 +286,10 @@ public final class LyingTest {
         p.sets(0, 2);
         check.due("stays()", p.stays(), 0);
         check.changes("tidies()", () -> p.tidies(), 0);
-        place(3, 2, 4);
-        place(0, 2, 2);
-        place(1, 3, 2);
-        place(2, 2, 3);
+        check.place(3, 2, 4);
+        check.place(0, 2, 2);
+        check.place(1, 3, 2);
+        check.place(2, 2, 3);
     }
 
     private static void stays() {

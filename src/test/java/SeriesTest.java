@@ -13,11 +13,6 @@ public final class SeriesTest {
         check.end();
     }
 
-    private static void place(int k, int x, int y) {
-        check.due("of(" + k + ", 4)", p.of(k, 4), x);
-        check.due("of(" + k + ", 5)", p.of(k, 5), y);
-    }
-
     private static void keeps() {
         p = check.begin("promise 23");
         check.changes("keeps(0) of none", () -> p.keeps(0), 0);
@@ -60,19 +55,19 @@ public final class SeriesTest {
         p.lays(0, 8, 8);
         p.off(1);
         check.due("takes(1)", p.takes(1), 1);
-        place(0, -1, -1);
-        place(1, 5, 6);
+        check.place(0, -1, -1);
+        check.place(1, 5, 6);
         check.due("told(13)", p.told(13), 5);
         check.due("back()", p.back(), 4);
-        place(0, 8, 8);
-        place(1, -1, -1);
+        check.place(0, 8, 8);
+        check.place(1, -1, -1);
 
         p = check.begin("promise 24, one STATE");
         p.item(0, 3, 1, 1);
         p.keeps(2);
         p.lays(0, 8, 8);
         check.changes("takes(2)", () -> p.takes(2), 0);
-        place(0, -1, -1);
+        check.place(0, -1, -1);
     }
 
     private static void takesOfOtherNumbers() {
@@ -85,15 +80,15 @@ public final class SeriesTest {
         p.item(0, 5, 1, 1);
         p.lays(2, 10, 10);
         check.due("takes(0): no place for 2", p.takes(0), 2);
-        place(2, -1, -1);
+        check.place(2, -1, -1);
         p.drops(0);
         p.drops(0);
         check.due("takes(0): the one that is left is 0 now", p.takes(0), 1);
-        place(0, 1, 1);
+        check.place(0, 1, 1);
         p.item(0, 5, 1, 1);
         p.sheet(16, 16);
         check.due("takes(0): a new one is 1 now", p.takes(0), 2);
-        place(1, 7, 8);
+        check.place(1, 7, 8);
         check.due("told(5): THE SHEET stays", p.told(5), 16);
         check.due("of(1, 1): what it is stays", p.of(1, 1), 5);
     }
@@ -109,7 +104,7 @@ public final class SeriesTest {
         p.sheet(6, 6);
         p.off(0);
         check.due("takes(2)", p.takes(2), 2);
-        place(0, 13, 13);
+        check.place(0, 13, 13);
         check.due("all(1)", p.all(1), 1);
         check.due("white(0): nothing of it is on THE SHEET", p.white(0), 32);
     }

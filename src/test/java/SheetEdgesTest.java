@@ -40,26 +40,7 @@ public final class SheetEdgesTest {
     }
 
     private static void begin(String sentence, int w, int h, int margin, int big) {
-        begin(sentence);
-        p.sheet(w, h);
-        p.sets(0, margin);
-        p.sets(2, big);
-    }
-
-    private static void items(int many, int sort, int rank, int a, int b) {
-        for (int i = 0; i < many; i++) {
-            p.item(sort, rank, a, b);
-        }
-    }
-
-    private static void place(int k, int x, int y) {
-        check.due("of(" + k + ", 4)", p.of(k, 4), x);
-        check.due("of(" + k + ", 5)", p.of(k, 5), y);
-    }
-
-    private static void size(int k, int wide, int high) {
-        check.due("of(" + k + ", 6)", p.of(k, 6), wide);
-        check.due("of(" + k + ", 7)", p.of(k, 7), high);
+        p = check.begin(sentence, w, h, margin, big);
     }
 
     // ---- 1 THE SHEET
@@ -80,7 +61,7 @@ public final class SheetEdgesTest {
 
     private static void margins() {
         begin("MARGIN (0 .. 2; 1 at first)", 6, 6, 2, 20);
-        items(1, 0, 1, 1, 1);
+        check.items(1, 0, 1, 1, 1);
         check.asks("free(0, 3): 2 by 2 are left", () -> p.free(0, 3), 1);
         check.asks("free(0, 0)", () -> p.free(0, 0), 16 * 2 + 2);
         p.sets(2, 25);
@@ -99,7 +80,7 @@ public final class SheetEdgesTest {
             check.due("told(4)", p.told(4), k);
             check.due("item(1, 6, 4, 1)", p.item(1, 6, 4, 1), k);
             check.due("of(" + k + ", 1)", p.of(k, 1), 6);
-            place(k, NONE, NONE);
+            check.place(k, NONE, NONE);
         }
         check.refused("a ninth", () -> p.item(1, 6, 4, 1), FULL);
         check.due("drops(0)", p.drops(0), 7);
@@ -137,71 +118,71 @@ public final class SheetEdgesTest {
 
     private static void sizesCut() {
         begin("HIGH: SIDE and a half as a float, cut");
-        items(1, 0, 1, 1, 1);
+        check.items(1, 0, 1, 1, 1);
         int[][] bigAndHigh = {{10, 1}, {14, 1}, {15, 2}, {24, 2}, {25, 3}, {35, 4}, {44, 4}, {45, 5}, {74, 7}, {75, 8}, {80, 8}};
         for (int[] b : bigAndHigh) {
             p.sets(2, b[0]);
-            size(0, b[1], b[1]);
+            check.size(0, b[1], b[1]);
         }
 
         begin("WIDE: of words SIDE times a; and a half, cut");
-        items(1, 0, 1, 2, 4);
+        check.items(1, 0, 1, 2, 4);
         p.sets(2, 12);
-        size(0, 2, 1);
+        check.size(0, 2, 1);
         p.sets(2, 13);
-        size(0, 3, 1);
+        check.size(0, 3, 1);
         p.becomes(0, 2, 4);
-        size(0, 5, 1);
+        check.size(0, 5, 1);
         p.becomes(0, 2, 3);
-        size(0, 4, 1);
+        check.size(0, 4, 1);
 
         begin("WIDE: of a picture SIDE times a, that by b; and a half, cut");
-        items(1, 1, 1, 3, 2);
+        check.items(1, 1, 1, 3, 2);
         p.sets(2, 10);
-        size(0, 2, 1);
+        check.size(0, 2, 1);
         p.becomes(0, 3, 4);
-        size(0, 1, 1);
+        check.size(0, 1, 1);
         p.becomes(0, 2, 4);
         p.becomes(0, 3, 3);
-        size(0, 1, 1);
+        check.size(0, 1, 1);
         p.becomes(0, 3, 1);
-        size(0, 4, 1);
+        check.size(0, 4, 1);
         p.becomes(0, 0, 0);
         p.becomes(0, 3, 4);
-        size(0, 4, 1);
+        check.size(0, 4, 1);
     }
 
     private static void sizesAtLeastOne() {
         begin("HIGH .. 1 at least");
         p.sets(2, 10);
         p.sets(3, 20);
-        items(1, 0, 2, 1, 1);
-        size(0, 1, 1);
+        check.items(1, 0, 2, 1, 1);
+        check.size(0, 1, 1);
         p.becomes(0, 1, 3);
-        size(0, 1, 1);
+        check.size(0, 1, 1);
         p.becomes(0, 1, 6);
         p.sets(3, 30);
-        size(0, 1, 1);
+        check.size(0, 1, 1);
         check.due("of(0, 8)", p.of(0, 8), 1);
 
         begin("WIDE .. 1 at least");
         p.sets(2, 10);
-        items(1, 1, 1, 1, 2);
-        size(0, 1, 1);
+        check.items(1, 1, 1, 1, 2);
+        check.size(0, 1, 1);
         p.becomes(0, 3, 3);
-        size(0, 1, 1);
+        check.size(0, 1, 1);
         p.becomes(0, 3, 4);
-        size(0, 1, 1);
+        check.size(0, 1, 1);
         p.sets(2, 80);
-        size(0, 2, 8);
+        check.size(0, 2, 8);
         p.becomes(0, 1, 6);
-        size(0, 1, 1);
+        check.size(0, 1, 1);
     }
 
     private static void weights() {
         begin("WEIGHT: WIDE times HIGH times (7 less RANK)");
         p.sets(3, 10);
-        items(1, 0, 1, 1, 1);
+        check.items(1, 0, 1, 1, 1);
         for (int rank = 1; rank <= 6; rank++) {
             p.becomes(0, 1, rank);
             check.due("of(0, 8), RANK " + rank, p.of(0, 8), 16 * (7 - rank));
@@ -247,12 +228,12 @@ public final class SheetEdgesTest {
 
     private static void onTheSheet() {
         begin("It FITS at a place, if all it covers lies on THE SHEET", 16, 16, 0, 10);
-        items(1, 0, 1, 1, 1);
+        check.items(1, 0, 1, 1, 1);
         int[][] corners = {{0, 0}, {15, 0}, {0, 15}, {15, 15}};
         for (int[] c : corners) {
             check.asks("fits in a corner", () -> p.fits(0, c[0], c[1]), 1);
             check.due("lays in a corner", p.lays(0, c[0], c[1]), c[0] + c[1] == 0 ? 0 : 1);
-            place(0, c[0], c[1]);
+            check.place(0, c[0], c[1]);
             check.due("of(0, 9)", p.of(0, 9), 1);
         }
         p.becomes(0, 2, 2);
@@ -273,7 +254,7 @@ public final class SheetEdgesTest {
         for (int m = 0; m <= 2; m++) {
             int margin = m;
             begin("MARGIN CELLS or more from each edge", 10, 12, margin, 30);
-            items(1, 0, 1, 1, 1);
+            check.items(1, 0, 1, 1, 1);
             int right = 7 - margin;
             int below = 9 - margin;
             int[][] fitting = {{margin, margin}, {right, margin}, {margin, below}, {right, below}};
@@ -299,7 +280,7 @@ public final class SheetEdgesTest {
 
     private static void onLines() {
         begin("x is one of LINES, if there are any", 14, 9, 1, 10);
-        items(1, 0, 1, 1, 1);
+        check.items(1, 0, 1, 1, 1);
         for (int columns = 0; columns <= 6; columns++) {
             p.sets(4, columns);
             for (int x = 1; x < 13; x++) {
@@ -324,8 +305,8 @@ public final class SheetEdgesTest {
             int gutter = g;
             begin("apart: to the left or right with GUTTER CELLS or more between them, or above or below", 16, 16, 0, 20);
             p.sets(1, gutter);
-            items(1, 0, 1, 1, 1);
-            items(1, 0, 1, 2, 1);
+            check.items(1, 0, 1, 1, 1);
+            check.items(1, 0, 1, 2, 1);
             check.due("lays(1, 6, 7)", p.lays(1, 6, 7), 0);
             // 1 covers 6, 7 to 9, 8; 0 is 2 by 2. Where it is too near is one rectangle.
             for (int y = 0; y <= 14; y++) {
@@ -349,7 +330,7 @@ public final class SheetEdgesTest {
 
     private static void apartFromThoseThatLie() {
         begin("each other ITEM that lies somewhere is apart from it", 8, 8, 0, 40);
-        items(3, 0, 1, 1, 1);
+        check.items(3, 0, 1, 1, 1);
         check.asks("fits: none lies", () -> p.fits(0, 2, 2), 1);
         p.lays(0, 2, 2);
         check.asks("fits: itself counts not", () -> p.fits(0, 3, 3), 1);
@@ -366,7 +347,7 @@ public final class SheetEdgesTest {
 
     private static void placesInOrder() {
         begin("Places are in order by y, then by x", 16, 16, 0, 10);
-        items(1, 0, 1, 1, 1);
+        check.items(1, 0, 1, 1, 1);
         check.asks("free(0, 0)", () -> p.free(0, 0), 0);
         check.asks("free(0, 2)", () -> p.free(0, 2), 16 * 15 + 15);
         check.asks("free(0, 3)", () -> p.free(0, 3), 256);
@@ -384,7 +365,7 @@ public final class SheetEdgesTest {
         check.asks("free(0, 3): above alone", () -> p.free(0, 3), 13);
         check.asks("free(0, 2): above alone", () -> p.free(0, 2), 12);
         begin("free: NONE: there is no such place; how many places (3; 0: none)", 8, 8, 0, 80);
-        items(2, 0, 1, 1, 1);
+        check.items(2, 0, 1, 1, 1);
         for (int w = 0; w <= 2; w++) {
             int what = w;
             check.asks("free(0, " + what + "), just one", () -> p.free(0, what), 0);
@@ -410,7 +391,7 @@ public final class SheetEdgesTest {
         check.changes("packs(): eight fill THE SHEET", () -> p.packs(), 8);
         int[] order = {1, 5, 4, 2, 7, 6, 0, 3};
         for (int i = 0; i < 8; i++) {
-            place(order[i], i % 2 * 4, i / 2 * 4);
+            check.place(order[i], i % 2 * 4, i / 2 * 4);
         }
         check.due("white(0)", p.white(0), 0);
         p.becomes(3, 1, 1);
@@ -418,44 +399,44 @@ public final class SheetEdgesTest {
         check.changes("packs(), other RANKS", () -> p.packs(), 8);
         int[] next = {3, 5, 4, 2, 7, 6, 0, 1};
         for (int i = 0; i < 8; i++) {
-            place(next[i], i % 2 * 4, i / 2 * 4);
+            check.place(next[i], i % 2 * 4, i / 2 * 4);
         }
     }
 
     private static void packingOnWideAndHighSheets() {
         begin("PACKING: the first place where it FITS, on a wide sheet, on a high one", 16, 6, 0, 60);
-        items(2, 0, 1, 1, 1);
-        items(2, 0, 6, 1, 1);
+        check.items(2, 0, 1, 1, 1);
+        check.items(2, 0, 6, 1, 1);
         check.changes("packs()", () -> p.packs(), 4);
-        place(0, 0, 0);
-        place(1, 6, 0);
-        place(2, 12, 0);
-        place(3, 13, 0);
+        check.place(0, 0, 0);
+        check.place(1, 6, 0);
+        check.place(2, 12, 0);
+        check.place(3, 13, 0);
         p.sheet(6, 16);
         check.changes("packs()", () -> p.packs(), 4);
-        place(0, 0, 0);
-        place(1, 0, 6);
-        place(2, 0, 12);
-        place(3, 1, 12);
+        check.place(0, 0, 0);
+        check.place(1, 0, 6);
+        check.place(2, 0, 12);
+        check.place(3, 1, 12);
         p.sets(1, 2);
         check.changes("packs(), with a GUTTER", () -> p.packs(), 2);
-        place(1, 0, 8);
-        place(2, NONE, NONE);
-        place(3, NONE, NONE);
+        check.place(1, 0, 8);
+        check.place(2, NONE, NONE);
+        check.place(3, NONE, NONE);
     }
 
     private static void packingWithoutPlace() {
         begin("PACKING: it lies nowhere, if there is none", 8, 7, 0, 40);
         p.sets(3, 10);
-        items(1, 0, 1, 1, 1);
-        items(1, 0, 2, 4, 1);
-        items(1, 1, 3, 1, 1);
-        items(1, 1, 4, 1, 4);
+        check.items(1, 0, 1, 1, 1);
+        check.items(1, 0, 2, 4, 1);
+        check.items(1, 1, 3, 1, 1);
+        check.items(1, 1, 4, 1, 4);
         check.changes("packs()", () -> p.packs(), 2);
-        place(0, 0, 0);
-        place(1, NONE, NONE);
-        place(2, 4, 0);
-        place(3, NONE, NONE);
+        check.place(0, 0, 0);
+        check.place(1, NONE, NONE);
+        check.place(2, 4, 0);
+        check.place(3, NONE, NONE);
         check.due("all(0)", p.all(0), 5);
     }
 
@@ -469,10 +450,10 @@ public final class SheetEdgesTest {
             p.lays(k, 1 + k, 1 + k);
         }
         check.changes("drops(7)", () -> p.drops(7), 7);
-        place(6, 7, 7);
+        check.place(6, 7, 7);
         check.changes("drops(0)", () -> p.drops(0), 6);
-        place(0, 2, 2);
-        place(5, 7, 7);
+        check.place(0, 2, 2);
+        check.place(5, 7, 7);
         check.due("of(5, 1)", p.of(5, 1), 1);
         check.due("of(0, 2)", p.of(0, 2), 2);
         for (int left = 5; left >= 0; left--) {
@@ -481,7 +462,7 @@ public final class SheetEdgesTest {
         }
         check.due("all(0)", p.all(0), 0);
         check.due("item(0, 1, 1, 1)", p.item(0, 1, 1, 1), 0);
-        place(0, NONE, NONE);
+        check.place(0, NONE, NONE);
 
         begin("drops: those behind it are one nearer, with all that they have");
         p.item(0, 1, 4, 1);
@@ -506,7 +487,7 @@ public final class SheetEdgesTest {
 
         begin("off: how many lie yet");
         p.sets(2, 10);
-        items(8, 0, 6, 1, 1);
+        check.items(8, 0, 6, 1, 1);
         check.due("packs()", p.packs(), 8);
         for (int left = 7; left >= 0; left--) {
             int k = 7 - left;
@@ -515,33 +496,33 @@ public final class SheetEdgesTest {
         }
 
         begin("becomes: it stays where it lies");
-        items(8, 0, 6, 1, 1);
+        check.items(8, 0, 6, 1, 1);
         p.packs();
         int x = p.of(7, 4);
         int y = p.of(7, 5);
         check.changes("becomes(7, 1, 1)", () -> p.becomes(7, 1, 1), 6);
         check.changes("becomes(7, 2, 4)", () -> p.becomes(7, 2, 4), 1);
-        place(7, x, y);
-        size(7, 16, 4);
-        size(6, 1, 1);
+        check.place(7, x, y);
+        check.size(7, 16, 4);
+        check.size(6, 1, 1);
     }
 
     private static void swapsAtTheEdges() {
         begin("swaps: two ITEMS change places (one may lie nowhere): how many of both FIT then", 10, 10, 0, 20);
-        items(7, 0, 1, 1, 1);
-        items(1, 0, 1, 2, 1);
+        check.items(7, 0, 1, 1, 1);
+        check.items(1, 0, 1, 2, 1);
         p.lays(7, 6, 8);
         check.changes("swaps(0, 7), the first one nowhere", () -> p.swaps(0, 7), 1);
-        place(0, 6, 8);
-        place(7, NONE, NONE);
+        check.place(0, 6, 8);
+        check.place(7, NONE, NONE);
         check.changes("swaps(0, 7), the second one nowhere", () -> p.swaps(0, 7), 1);
-        place(0, NONE, NONE);
-        place(7, 6, 8);
+        check.place(0, NONE, NONE);
+        check.place(7, 6, 8);
         check.refused("swaps(0, 1), both nowhere", () -> p.swaps(0, 1), NO);
         check.refused("swaps(1, 1), alike and nowhere", () -> p.swaps(1, 1), -2);
         p.lays(0, 8, 0);
         check.changes("swaps(7, 0): one sticks out", () -> p.swaps(7, 0), 1);
-        place(7, 8, 0);
+        check.place(7, 8, 0);
         check.due("all(1)", p.all(1), 128);
         check.changes("swaps(7, 0) back", () -> p.swaps(7, 0), 2);
         p.lays(0, 8, 4);
@@ -553,7 +534,7 @@ public final class SheetEdgesTest {
 
     private static void atTheEdges() {
         begin("at: the least ITEM that covers a CELL; NONE", 16, 6, 0, 20);
-        items(2, 0, 1, 1, 1);
+        check.items(2, 0, 1, 1, 1);
         int[][] corners = {{0, 0}, {15, 0}, {0, 5}, {15, 5}};
         for (int[] c : corners) {
             check.asks("at a corner", () -> p.at(c[0], c[1]), NONE);

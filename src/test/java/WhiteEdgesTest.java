@@ -38,26 +38,7 @@ public final class WhiteEdgesTest {
     }
 
     private static void begin(String sentence, int w, int h, int margin, int big) {
-        p = check.begin(sentence);
-        p.sheet(w, h);
-        p.sets(0, margin);
-        p.sets(2, big);
-    }
-
-    private static void items(int many, int sort, int rank, int a, int b) {
-        for (int i = 0; i < many; i++) {
-            p.item(sort, rank, a, b);
-        }
-    }
-
-    private static void place(int k, int x, int y) {
-        check.due("of(" + k + ", 4)", p.of(k, 4), x);
-        check.due("of(" + k + ", 5)", p.of(k, 5), y);
-    }
-
-    private static void size(int k, int wide, int high) {
-        check.due("of(" + k + ", 6)", p.of(k, 6), wide);
-        check.due("of(" + k + ", 7)", p.of(k, 7), high);
+        p = check.begin(sentence, w, h, margin, big);
     }
 
     private static void whites(int cells, int block, int place, int wide, int parts) {
@@ -86,7 +67,7 @@ public final class WhiteEdgesTest {
 
     private static void stickingOut() {
         begin("WHITE (an ITEM that sticks out covers what is on THE SHEET)", 16, 16, 0, 40);
-        items(2, 0, 1, 1, 1);
+        check.items(2, 0, 1, 1, 1);
         p.lays(0, 6, 6);
         p.sheet(9, 16);
         check.due("white(0): three columns of it", p.white(0), 9 * 16 - 12);
@@ -103,7 +84,7 @@ public final class WhiteEdgesTest {
         check.due("all(1)", p.all(1), 1);
 
         begin("WHITE: CELLS that no ITEM covers (two may cover one)", 12, 12, 0, 40);
-        items(2, 0, 1, 1, 1);
+        check.items(2, 0, 1, 1, 1);
         p.lays(0, 0, 0);
         p.lays(1, 4, 0);
         p.becomes(0, 2, 2);
@@ -114,7 +95,7 @@ public final class WhiteEdgesTest {
 
     private static void nothingWhite() {
         begin("the greatest BLOCK: CELLS (1; 0: none) .. (2, 3: NONE: none), PARTS (4)", 6, 6, 0, 60);
-        items(1, 0, 1, 1, 1);
+        check.items(1, 0, 1, 1, 1);
         whites(36, 36, 0, 6, 1);
         p.lays(0, 0, 0);
         whites(0, 0, NONE, NONE, 0);
@@ -125,7 +106,7 @@ public final class WhiteEdgesTest {
 
     private static void oneCellWhite() {
         begin("BLOCK: a rectangle of WHITE (the least: one CELL)", 7, 6, 0, 60);
-        items(2, 0, 1, 1, 1);
+        check.items(2, 0, 1, 1, 1);
         p.lays(0, 0, 0);
         p.sets(3, 30);
         p.becomes(1, 1, 6);
@@ -134,7 +115,7 @@ public final class WhiteEdgesTest {
             check.due("lays(1)", p.lays(1, f[0], f[1]), f[1] == 0 ? 0 : 1);
             whites(5, 5, f[1] == 0 ? 22 : 6, 1, 1);
         }
-        items(5, 1, 6, 1, 4);
+        check.items(5, 1, 6, 1, 4);
         for (int k = 2; k <= 5; k++) {
             p.lays(k, 6, k - 1);
         }
@@ -147,7 +128,7 @@ public final class WhiteEdgesTest {
 
     private static void likeBlocks() {
         begin("BLOCK .. of like ones that with the first place", 12, 12, 0, 40);
-        items(1, 0, 1, 3, 1);
+        check.items(1, 0, 1, 3, 1);
         p.lays(0, 0, 4);
         whites(96, 48, 0, 12, 2);
         p.sheet(12, 13);
@@ -156,7 +137,7 @@ public final class WhiteEdgesTest {
         whites(84, 48, 0, 12, 2);
 
         begin("BLOCK .. of like ones in one row that to the left", 12, 12, 0, 40);
-        items(3, 0, 1, 1, 1);
+        check.items(3, 0, 1, 1, 1);
         p.lays(0, 4, 0);
         p.lays(1, 4, 4);
         p.lays(2, 4, 8);
@@ -167,7 +148,7 @@ public final class WhiteEdgesTest {
 
     private static void widestBlocks() {
         begin("BLOCK .. then the widest", 12, 12, 0, 60);
-        items(1, 0, 1, 1, 1);
+        check.items(1, 0, 1, 1, 1);
         p.lays(0, 6, 6);
         whites(108, 72, 0, 12, 1);
         p.lays(0, 0, 0);
@@ -183,7 +164,7 @@ public final class WhiteEdgesTest {
 
     private static void parts() {
         begin("PARTS: WHITE CELLS hang together side by side; how many such heaps there are", 6, 16, 0, 14);
-        items(8, 0, 1, 4, 1);
+        check.items(8, 0, 1, 4, 1);
         check.due("of(0, 6)", p.of(0, 6), 6);
         check.due("of(0, 7)", p.of(0, 7), 1);
         for (int k = 0; k < 8; k++) {
@@ -195,7 +176,7 @@ public final class WhiteEdgesTest {
         whites(54, 18, 0, 6, 7);
 
         begin("PARTS: corner to corner is not side by side", 6, 6, 0, 30);
-        items(2, 0, 1, 1, 1);
+        check.items(2, 0, 1, 1, 1);
         p.lays(0, 0, 0);
         p.lays(1, 3, 3);
         whites(18, 9, 3, 3, 2);
@@ -218,7 +199,7 @@ public final class WhiteEdgesTest {
         whites(6, 6, 0, 6, 1);
 
         begin("PARTS: round an ITEM they hang together", 6, 6, 0, 40);
-        items(1, 0, 1, 1, 1);
+        check.items(1, 0, 1, 1, 1);
         p.lays(0, 1, 1);
         whites(20, 6, 0, 6, 1);
     }
@@ -270,7 +251,7 @@ public final class WhiteEdgesTest {
 
     private static void share() {
         begin("WHITE by all CELLS, a float, as its bits", 16, 16, 0, 10);
-        items(1, 0, 1, 1, 1);
+        check.items(1, 0, 1, 1, 1);
         check.asks("white(5): all", () -> p.white(5), Float.floatToIntBits(1.0f));
         p.lays(0, 15, 15);
         check.asks("white(5): all but one", () -> p.white(5), Float.floatToIntBits(255f / 256f));
@@ -286,7 +267,7 @@ public final class WhiteEdgesTest {
         check.asks("white(5)", () -> p.white(5), Float.floatToIntBits(63f / 112f));
         p.sheet(16, 16);
         p.sets(2, 10);
-        items(7, 0, 1, 1, 1);
+        check.items(7, 0, 1, 1, 1);
         p.sets(2, 40);
         check.due("packs()", p.packs(), 8);
         p.sheet(16, 9);
@@ -300,7 +281,7 @@ public final class WhiteEdgesTest {
     private static void centreOfNone() {
         begin("CENTRE: W by 2.0 and H by 2.0, if none lies", 7, 16, 0, 10);
         centres(3.5, 8.0, 0.0);
-        items(1, 0, 1, 1, 1);
+        check.items(1, 0, 1, 1, 1);
         centres(3.5, 8.0, 0.0);
         p.lays(0, 6, 0);
         centres(6.5, 0.5, 9.0 + 56.25);
@@ -312,8 +293,8 @@ public final class WhiteEdgesTest {
 
     private static void centreOfOne() {
         begin("CENTRE: of all ITEMS that lie somewhere", 8, 8, 0, 20);
-        items(1, 0, 6, 1, 1);
-        items(1, 0, 1, 1, 1);
+        check.items(1, 0, 6, 1, 1);
+        check.items(1, 0, 1, 1, 1);
         p.lays(1, 3, 3);
         centres(4.0, 4.0, 0.0);
         p.lays(1, 0, 6);
@@ -330,7 +311,7 @@ public final class WhiteEdgesTest {
 
     private static void bestOfLikeOnes() {
         begin("BEST .. of like ones the first", 7, 7, 0, 20);
-        items(1, 0, 1, 1, 1);
+        check.items(1, 0, 1, 1, 1);
         check.asks("free(0, 1): of four", () -> p.free(0, 1), 16 * 2 + 2);
         p.sheet(8, 7);
         check.asks("free(0, 1): of two, one above the other", () -> p.free(0, 1), 16 * 2 + 3);
@@ -342,7 +323,7 @@ public final class WhiteEdgesTest {
         check.asks("free(0, 1): on LINE 0", () -> p.free(0, 1), 16 * 3);
 
         begin("BEST place of an ITEM: of all where it FITS (wherever it lies now, that counts not)", 8, 8, 0, 20);
-        items(3, 0, 1, 1, 1);
+        check.items(3, 0, 1, 1, 1);
         p.lays(0, 3, 3);
         check.asks("free(0, 1): where it lies", () -> p.free(0, 1), 16 * 3 + 3);
         p.lays(0, 0, 0);
@@ -355,8 +336,8 @@ public final class WhiteEdgesTest {
 
     private static void bestAtTheFarEdge() {
         begin("BEST place of an ITEM: of all where it FITS, on a wide sheet, on a high one", 16, 6, 0, 60);
-        items(1, 0, 1, 2, 1);
-        items(1, 0, 6, 1, 1);
+        check.items(1, 0, 1, 2, 1);
+        check.items(1, 0, 6, 1, 1);
         p.lays(0, 0, 0);
         check.asks("free(1, 1): to the right alone", () -> p.free(1, 1), 16 * 2 + 15);
         p.sheet(6, 16);
@@ -372,7 +353,7 @@ public final class WhiteEdgesTest {
         begin("all, of none", 12, 12, 0, 10);
         alls(0, 0, 0, 0);
         p.sets(3, 10);
-        items(8, 0, 6, 1, 1);
+        check.items(8, 0, 6, 1, 1);
         alls(0, 0, 0, 0);
         p.packs();
         alls(255, 0, 8, 0);
@@ -387,8 +368,8 @@ public final class WhiteEdgesTest {
     private static void pairs() {
         begin("pairs of unlike RANK have the ITEM of the lesser RANK no larger (all ITEMS)", 12, 12, 1, 40);
         p.sets(3, 10);
-        items(1, 0, 1, 1, 1);
-        items(1, 0, 2, 1, 1);
+        check.items(1, 0, 1, 1, 1);
+        check.items(1, 0, 2, 1, 1);
         check.asks("all(3): as large is no larger", () -> p.all(3), 1);
         p.becomes(0, 2, 2);
         check.asks("all(3): larger", () -> p.all(3), 0);
@@ -423,7 +404,7 @@ public final class WhiteEdgesTest {
     private static void sorted() {
         begin("sorted: the i-th (0 on); NONE: not so many", 12, 12, 1, 40);
         check.asks("sorted(1, 0): none", () -> p.sorted(1, 0), NONE);
-        items(8, 1, 3, 1, 1);
+        check.items(8, 1, 3, 1, 1);
         for (int n = 0; n < 8; n++) {
             int i = n;
             check.asks("sorted(1, " + i + "), of like ones by number", () -> p.sorted(1, i), i);
@@ -454,7 +435,7 @@ public final class WhiteEdgesTest {
         check.changes("keeps(0), nothing lies", () -> p.keeps(0), 0);
         check.due("told(12)", p.told(12), 1);
         check.changes("takes(0), no ITEM", () -> p.takes(0), 0);
-        items(8, 0, 6, 1, 1);
+        check.items(8, 0, 6, 1, 1);
         p.packs();
         check.changes("keeps(2), eight lie", () -> p.keeps(2), 8);
         check.due("told(12)", p.told(12), 5);
@@ -473,17 +454,17 @@ public final class WhiteEdgesTest {
 
     private static void keptNumbers() {
         begin("takes: those with a number that it has no place for lie nowhere", 12, 12, 0, 10);
-        items(2, 0, 6, 1, 1);
+        check.items(2, 0, 6, 1, 1);
         p.lays(1, 11, 11);
         p.keeps(1);
-        items(6, 0, 6, 1, 1);
+        check.items(6, 0, 6, 1, 1);
         p.packs();
         check.changes("takes(1)", () -> p.takes(1), 1);
         check.due("all(0): 0 lay nowhere, 2 to 7 were not yet", p.all(0), 2);
-        place(1, 11, 11);
+        check.place(1, 11, 11);
         p.drops(1);
         check.due("takes(1): 1 is what was 2", p.takes(1), 1);
-        place(1, 11, 11);
+        check.place(1, 11, 11);
         for (int k = 0; k < 6; k++) {
             p.drops(1);
         }
@@ -492,7 +473,7 @@ public final class WhiteEdgesTest {
         check.due("otherwise(1, 0)", p.otherwise(1, 0), 1);
 
         begin("takes (whether they FIT or not)", 16, 16, 0, 10);
-        items(2, 0, 1, 1, 1);
+        check.items(2, 0, 1, 1, 1);
         p.lays(0, 15, 15);
         p.lays(1, 14, 15);
         p.keeps(0);
@@ -501,8 +482,8 @@ public final class WhiteEdgesTest {
         p.sets(2, 40);
         p.sets(0, 2);
         check.due("takes(0)", p.takes(0), 2);
-        place(0, 15, 15);
-        place(1, 14, 15);
+        check.place(0, 15, 15);
+        check.place(1, 14, 15);
         alls(3, 3, 192, 0);
     }
 
@@ -510,7 +491,7 @@ public final class WhiteEdgesTest {
         begin("OTHERWISE: how many numbers 0 .. 7 have an ITEM that lies somewhere now or then, but not both alike", 16, 16, 0, 10);
         p.keeps(2);
         check.asks("otherwise(2, 0): none, none", () -> p.otherwise(2, 0), 0);
-        items(8, 0, 1, 1, 1);
+        check.items(8, 0, 1, 1, 1);
         check.asks("otherwise(2, 0): eight that lie nowhere", () -> p.otherwise(2, 0), 0);
         p.packs();
         check.asks("otherwise(2, 0): eight that lie now", () -> p.otherwise(2, 0), 8);
@@ -528,7 +509,7 @@ public final class WhiteEdgesTest {
         check.asks("otherwise(0, 1)", () -> p.otherwise(0, 1), 0);
 
         begin("OTHERWISE (place, WIDE, HIGH: now as they are now, then as they were)", 16, 16, 0, 20);
-        items(1, 1, 1, 2, 2);
+        check.items(1, 1, 1, 2, 2);
         p.lays(0, 4, 4);
         p.keeps(0);
         p.becomes(0, 1, 2);
@@ -554,8 +535,8 @@ public final class WhiteEdgesTest {
         p.item(1, 1, 1, 2);
         p.lays(0, 0, 0);
         p.lays(1, 9, 9);
-        size(0, 8, 4);
-        size(1, 2, 4);
+        check.size(0, 8, 4);
+        check.size(1, 2, 4);
         for (int s = 0; s <= 2; s++) {
             p.keeps(s);
         }
@@ -566,26 +547,26 @@ public final class WhiteEdgesTest {
             check.asks("otherwise(" + s + ", 0): WIDE", () -> p.otherwise(s, 0), 1);
             p.becomes(1, 2, 1);
             p.sets(2, 45);
-            size(0, 9, 5);
-            size(1, 2, 5);
+            check.size(0, 9, 5);
+            check.size(1, 2, 5);
             check.asks("otherwise(" + s + ", 0): HIGH, and both", () -> p.otherwise(s, 0), 2);
             p.sets(2, 40);
         }
         p.sets(2, 20);
         p.keeps(1);
-        size(0, 4, 2);
+        check.size(0, 4, 2);
         p.sets(2, 40);
         p.becomes(0, 0, 1);
         p.becomes(0, 2, 1);
         p.becomes(0, 3, 2);
         p.off(1);
-        size(0, 2, 4);
+        check.size(0, 2, 4);
         check.asks("otherwise(1, 0): as high as it was wide, as wide as it was high", () -> p.otherwise(1, 0), 2);
     }
 
     private static void far() {
         begin("FAR: of those that lie both times how far x and y are apart, without signs, together", 16, 16, 0, 10);
-        items(2, 0, 1, 1, 1);
+        check.items(2, 0, 1, 1, 1);
         p.lays(0, 0, 15);
         p.lays(1, 15, 0);
         p.keeps(0);
@@ -611,7 +592,7 @@ public final class WhiteEdgesTest {
     private static void staysAtTheEdges() {
         begin("stays: the set (bits) that would STAY", 16, 16, 0, 10);
         check.asks("stays(): no ITEM", () -> p.stays(), 0);
-        items(8, 0, 1, 1, 1);
+        check.items(8, 0, 1, 1, 1);
         check.asks("stays(): none lies", () -> p.stays(), 0);
         check.changes("tidies(): none lies", () -> p.tidies(), 0);
         for (int k = 0; k < 8; k++) {
@@ -619,7 +600,7 @@ public final class WhiteEdgesTest {
         }
         check.asks("stays(): all", () -> p.stays(), 255);
         check.changes("tidies(): all", () -> p.tidies(), 8);
-        place(7, 14, 15);
+        check.place(7, 14, 15);
         p.sets(1, 1);
         check.asks("stays(): all, with a GUTTER", () -> p.stays(), 255);
         p.off(3);
@@ -631,13 +612,13 @@ public final class WhiteEdgesTest {
         check.changes("tidies(): none stays, all are laid anew", () -> p.tidies(), 0);
         check.due("all(1)", p.all(1), 0);
         check.due("all(0)", p.all(0), 247);
-        place(3, NONE, NONE);
+        check.place(3, NONE, NONE);
     }
 
     private static void staysOfLikeOnes() {
         for (int step : new int[] {1, 4}) {
             begin("a set STAYS: .. of like ones the least as bits", 16, 16, 0, 10);
-            items(8, 0, 1, 1, 1);
+            check.items(8, 0, 1, 1, 1);
             for (int i = 0; i < 4; i++) {
                 int k = step == 1 ? 2 * i : i;
                 p.lays(k, 4 * i, 7);
@@ -652,8 +633,8 @@ public final class WhiteEdgesTest {
 
         begin("a set STAYS: .. of the greatest WEIGHT together, of like ones of the most ITEMS", 16, 16, 0, 20);
         p.sets(3, 10);
-        items(1, 0, 1, 3, 1);
-        items(3, 0, 1, 1, 1);
+        check.items(1, 0, 1, 3, 1);
+        check.items(3, 0, 1, 1, 1);
         // 0 is 6 by 2, as heavy as 1, 2 and 3 together.
         p.lays(0, 4, 4);
         p.lays(1, 2, 4);
@@ -669,77 +650,77 @@ public final class WhiteEdgesTest {
 
     private static void tidiesNearest() {
         begin("each of these is laid where it FITS nearest to where it was, of like ones the first place", 16, 16, 0, 10);
-        items(2, 0, 1, 1, 1);
+        check.items(2, 0, 1, 1, 1);
         p.lays(0, 8, 8);
         p.lays(1, 9, 8);
         p.becomes(0, 2, 2);
         check.asks("stays()", () -> p.stays(), 1);
         check.changes("tidies(): of three places next to it the first, above", () -> p.tidies(), 1);
-        place(0, 8, 8);
-        place(1, 9, 7);
+        check.place(0, 8, 8);
+        check.place(1, 9, 7);
         p.lays(1, 9, 9);
         p.becomes(0, 2, 1);
         p.lays(1, 9, 8);
         p.becomes(0, 2, 3);
         p.sets(4, 0);
         check.changes("tidies(): above and below are as near", () -> p.tidies(), 1);
-        place(1, 9, 7);
+        check.place(1, 9, 7);
         p.becomes(0, 2, 1);
         p.lays(0, 8, 0);
         p.lays(1, 9, 0);
         p.becomes(0, 2, 3);
         check.changes("tidies(): at the upper edge below alone", () -> p.tidies(), 1);
-        place(1, 9, 1);
+        check.place(1, 9, 1);
 
         begin("nearest to where it was (x and y apart, without signs, together)", 16, 16, 0, 10);
-        items(1, 0, 1, 1, 1);
+        check.items(1, 0, 1, 1, 1);
         p.lays(0, 15, 15);
         p.sheet(6, 8);
         check.changes("tidies(): the nearest corner", () -> p.tidies(), 0);
-        place(0, 5, 7);
+        check.place(0, 5, 7);
         p.sets(0, 2);
         check.changes("tidies(): inside the MARGIN", () -> p.tidies(), 0);
-        place(0, 3, 5);
+        check.place(0, 3, 5);
         p.sheet(16, 16);
         p.sets(0, 0);
         p.lays(0, 8, 3);
         p.sets(4, 2);
         check.changes("tidies(): on a LINE", () -> p.tidies(), 1);
-        place(0, 8, 3);
+        check.place(0, 8, 3);
         p.sets(4, 3);
         check.changes("tidies(): LINES 0, 5 and 10", () -> p.tidies(), 0);
-        place(0, 10, 3);
+        check.place(0, 10, 3);
         p.sets(4, 0);
         p.lays(0, 4, 3);
         p.sets(4, 2);
         check.changes("tidies(): LINES 0 and 8 are as near", () -> p.tidies(), 0);
-        place(0, 0, 3);
+        check.place(0, 0, 3);
     }
 
     private static void tidiesAtTheUpperEdge() {
         begin("nearest to where it was, on a wide sheet, in the first row", 16, 6, 0, 60);
-        items(1, 0, 1, 1, 1);
-        items(1, 0, 6, 1, 1);
+        check.items(1, 0, 1, 1, 1);
+        check.items(1, 0, 6, 1, 1);
         p.lays(0, 0, 0);
         p.lays(1, 6, 0);
         p.becomes(0, 2, 2);
         check.changes("tidies()", () -> p.tidies(), 1);
-        place(0, 0, 0);
-        place(1, 12, 0);
+        check.place(0, 0, 0);
+        check.place(1, 12, 0);
         p.lays(1, 15, 5);
         p.sets(1, 2);
         check.changes("tidies(), both stay", () -> p.tidies(), 2);
         p.sheet(15, 6);
         check.changes("tidies(): one CELL to the left", () -> p.tidies(), 1);
-        place(1, 14, 5);
+        check.place(1, 14, 5);
         p.sheet(14, 6);
         check.changes("tidies(): it would be too near", () -> p.tidies(), 1);
-        place(1, -1, -1);
+        check.place(1, -1, -1);
     }
 
     private static void tidiesInOrder() {
         begin("then, by RANK, of like RANK by number, each of these is laid", 16, 16, 0, 10);
-        items(4, 0, 6, 1, 1);
+        check.items(4, 0, 6, 1, 1);
         for (int k = 0; k < 4; k++) {
             p.lays(k, 15, 3 + 4 * k);
         }
@@ -750,16 +731,16 @@ public final class WhiteEdgesTest {
         check.asks("stays(): none is on THE SHEET", () -> p.stays(), 0);
         check.changes("tidies()", () -> p.tidies(), 0);
         // 2 was at 15, 11; 0 at 15, 7; 1 at 15, 3; 3 at 15, 15.
-        place(2, 13, 5);
-        place(0, 13, 2);
-        place(1, 10, 3);
-        place(3, 7, 5);
+        check.place(2, 13, 5);
+        check.place(0, 13, 2);
+        check.place(1, 10, 3);
+        check.place(3, 7, 5);
     }
 
     private static void tidiesWithoutPlace() {
         begin("TIDYING: it lies nowhere, if there is none", 16, 16, 0, 40);
         p.sets(3, 10);
-        items(4, 0, 1, 1, 1);
+        check.items(4, 0, 1, 1, 1);
         p.item(1, 6, 1, 4);
         p.lays(0, 0, 0);
         p.lays(1, 4, 0);
@@ -769,7 +750,7 @@ public final class WhiteEdgesTest {
         check.asks("stays()", () -> p.stays(), 1);
         check.changes("tidies()", () -> p.tidies(), 1);
         check.due("all(0): a narrow one has its place, one that lay nowhere stays so", p.all(0), 17);
-        place(4, 4, 3);
+        check.place(4, 4, 3);
         check.due("white(0)", p.white(0), 49 - 16 - 4);
     }
 }
