@@ -2,7 +2,10 @@ import java.util.ArrayList;
 import java.util.Arrays;
 import java.util.List;
 
-/** All promises: long runs of calls, the same on PosterSheet and on Model. The runs are always the same ones. */
+/**
+ * All promises: long runs of calls, the same on PosterSheet and on Model. The runs are always the same ones;
+ * other ones may be asked for by hand: how many, and a number that they follow from.
+ */
 public final class RunsTest {
     private static final int RUNS = 150;
     /** An object is used for 512 calls; the last one is a digest. */
@@ -28,8 +31,10 @@ public final class RunsTest {
     private static int asked;
 
     public static void main(String[] args) {
-        for (int run = 0; run < RUNS; run++) {
-            seed = 7 + 1000003L * run;
+        int runs = args.length > 0 ? Integer.parseInt(args[0]) : RUNS;
+        long first = args.length > 1 ? Long.parseLong(args[1]) : 7;
+        for (int run = 0; run < runs; run++) {
+            seed = first + 1000003L * run;
             oneRun(run);
         }
         System.out.println(asked + " answers, " + wrong + " not as due");
